@@ -480,8 +480,8 @@ public final class CodeWords {
                 char sign = layout.charAt(k);
                 int part = partOf(sign);
                 found |= part;
-                mask = mask << 1 | (part == 0 ? 1 : 0);
-                bits = bits << 1 | (sign == '1' ? 1 : 0);
+                mask = (mask << 1) | (part == 0 ? 1 : 0);
+                bits = (bits << 1) | (sign == '1' ? 1 : 0);
                 if (part == PART_I) {
                     lowest = Math.min(lowest, sign - 'A');
                     highest = Math.max(highest, sign - 'A');
@@ -534,7 +534,7 @@ public final class CodeWords {
             return part == PART_A ? placeA : placeB;
         }
 
-        // A register of five bits has its own letter four bits above its lowest one.
+        // Only a register of five bits still has its letter four bits above its lowest one.
         private boolean isNarrow(int part) {
             int top = layout.length() - 1 - placeOf(part) - (WIDE_REGISTER_BITS - 1);
             return top < 0 || top >= layout.length() || partOf(layout.charAt(top)) != part;
@@ -567,7 +567,7 @@ public final class CodeWords {
         }
 
         boolean allowsImmediate(long v) {
-            if (!has(PART_I) || is(NOT_ZERO) && v == 0) {
+            if (!has(PART_I) || (is(NOT_ZERO) && v == 0)) {
                 return false;
             }
             if (is(UPPER) && (v < 0 || v >= UPPER_SPAN)) {
@@ -600,7 +600,7 @@ public final class CodeWords {
                     value |= ((word >>> (layout.length() - 1 - k)) & 1) << (sign - 'A');
                 }
             }
-            if (is(SIGNED) && (value >> highestBit & 1) != 0) {
+            if (is(SIGNED) && ((value >> highestBit) & 1) != 0) {
                 value -= 2 << highestBit;
             }
             return is(UPPER) ? value & (UPPER_SPAN - 1) : value;
@@ -623,7 +623,7 @@ public final class CodeWords {
             for (int k = 0; has(PART_I) && k < layout.length(); k++) {
                 char sign = layout.charAt(k);
                 if (partOf(sign) == PART_I) {
-                    bits |= (i >> (sign - 'A') & 1) << (layout.length() - 1 - k);
+                    bits |= ((i >> (sign - 'A')) & 1) << (layout.length() - 1 - k);
                 }
             }
             return bits;
