@@ -12,6 +12,7 @@ final class Check {
     private static CodeWords shared = new CodeWords();
     private static int calls = 0;
     private static int wrong = 0;
+    private static String sentence = "";
 
     private Check() {
     }
@@ -30,17 +31,22 @@ final class Check {
         return shared;
     }
 
+    /** The document's sentence that the next lines hold to; a wrong answer is told with it. */
+    static void sentence(String words) {
+        sentence = "[" + words + "] ";
+    }
+
     static void due(String what, long got, long want) {
         if (got != want) {
             wrong++;
-            System.out.println(what + " answered " + told(got) + ", due is " + told(want));
+            System.out.println(sentence + what + " answered " + told(got) + ", due is " + told(want));
         }
     }
 
     static void due(String what, String got, String want) {
         if (!got.equals(want)) {
             wrong++;
-            System.out.println(what + " answered \"" + got + "\", due is \"" + want + "\"");
+            System.out.println(sentence + what + " answered \"" + got + "\", due is \"" + want + "\"");
         }
     }
 
@@ -50,6 +56,10 @@ final class Check {
             System.out.println(wrong + " answers are not as due");
             System.exit(1);
         }
+    }
+
+    static String hex(int word) {
+        return "0x" + Integer.toHexString(word);
     }
 
     static long word(int kind, int d, int a, int b, int i) {

@@ -41,7 +41,7 @@ public final class ShorterTest {
                 shorter(s.word, CodeWords.NONE);
             }
         }
-        for (int illegal : new int[] {0, 0x7f, 0xffffffff, 0x2013 | 1 << 12, 0x8002}) {
+        for (int illegal : new int[] {0, 0x7f, 0xffffffff, 0x02001013, 0x8002}) {
             shorter(illegal, CodeWords.NONE);
         }
     }
