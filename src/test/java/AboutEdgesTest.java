@@ -36,6 +36,9 @@ public final class AboutEdgesTest {
         Edges.about(49, 0, 3);
         Edges.about(50, 0, 4);
         Edges.about(56, 0, 6);
+        for (Samples.Sample s : Samples.ROWS) {
+            Edges.about(s.kind, 0, s.pattern);
+        }
     }
 
     private static void parts() {

@@ -12,6 +12,7 @@ public final class LongKindEdgesTest {
         threeRegisters();
         withoutParts();
         otherOpcodes();
+        zeroMayBe();
         Check.end();
     }
 
@@ -123,6 +124,19 @@ public final class LongKindEdgesTest {
                 if (beside != 0x00000073 && beside != 0x00100073) {
                     Edges.illegal(beside);
                 }
+            }
+        }
+    }
+
+    private static void zeroMayBe() {
+        Check.sentence("0 lies between the ends of each LONG kind's immediates");
+        for (Samples.Sample s : Samples.ROWS) {
+            if (s.isLong() && s.has(3)) {
+                long word = Check.word(s.kind, s.partOr(0, 0), s.partOr(1, 0), s.partOr(2, 0), 0);
+                Edges.may(s.kind, 0, true);
+                Edges.fit(s.word, 0, word);
+                Edges.kind((int) word, s.kind);
+                Edges.part((int) word, 3, 0);
             }
         }
     }

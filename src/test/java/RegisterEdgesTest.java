@@ -3,6 +3,7 @@ public final class RegisterEdgesTest {
     private static final int D = 0;
     private static final int A = 1;
     private static final int B = 2;
+    private static final int C_LUI = 56;
 
     public static void main(String[] args) {
         longRegisters();
@@ -46,8 +47,9 @@ public final class RegisterEdgesTest {
         for (int kind = 0; kind < Samples.FIRST_SHORT_KIND; kind++) {
             for (int what = D; what <= B; what++) {
                 if (Samples.ROWS[kind].has(what)) {
-                    may(kind, what, 0, places[what], 0, 5);
-                    may(kind, what, 31, places[what], 31, 5);
+                    for (int register = 0; register <= 31; register++) {
+                        may(kind, what, register, places[what], register, 5);
+                    }
                     mayNot(kind, what, -1, 32, -32, 63, 64, Edges.LEAST_INT, Edges.GREATEST_INT);
                 }
             }
@@ -55,8 +57,9 @@ public final class RegisterEdgesTest {
     }
 
     private static void narrow(int kind, int what, int place) {
-        may(kind, what, 8, place, 0, 3);
-        may(kind, what, 15, place, 7, 3);
+        for (int register = 8; register <= 15; register++) {
+            may(kind, what, register, place, register - 8, 3);
+        }
         mayNot(kind, what, 7, 16, 0, -1, 31, 32, 40, Edges.LEAST_INT, Edges.GREATEST_INT);
     }
 
@@ -78,8 +81,11 @@ public final class RegisterEdgesTest {
     }
 
     private static void wide(int kind, int what, int place) {
-        may(kind, what, 1, place, 1, 5);
-        may(kind, what, 31, place, 31, 5);
+        for (int register = 1; register <= 31; register++) {
+            if (kind != C_LUI || register != 2) {
+                may(kind, what, register, place, register, 5);
+            }
+        }
         mayNot(kind, what, 0, -1, 32, 33, Edges.LEAST_INT, Edges.GREATEST_INT);
     }
 
@@ -87,7 +93,7 @@ public final class RegisterEdgesTest {
         Check.sentence("d, a, b five bits, not 0 but where told");
         wide(52, D, 7);
         wide(54, D, 7);
-        wide(56, D, 7);
+        wide(C_LUI, D, 7);
         wide(67, D, 7);
         wide(68, D, 7);
         wide(69, A, 7);
@@ -96,17 +102,13 @@ public final class RegisterEdgesTest {
         wide(72, A, 7);
         wide(73, D, 7);
         wide(73, B, 2);
-        // 2 is refused by c.lui alone
-        for (int kind : new int[] {52, 54, 67, 68, 70, 73}) {
-            may(kind, D, 2, 7, 2, 5);
-        }
     }
 
     private static void notTwoEither() {
         Check.sentence("56 c.lui: d not 2 either");
-        mayNot(56, D, 2);
-        may(56, D, 1, 7, 1, 5);
-        may(56, D, 3, 7, 3, 5);
+        mayNot(C_LUI, D, 2);
+        may(C_LUI, D, 1, 7, 1, 5);
+        may(C_LUI, D, 3, 7, 3, 5);
         // with 2 there it is c.addi16sp, or nothing without an immediate
         Edges.kind(0x6105, 55);
         Edges.kind(0x7101, 55);
@@ -115,8 +117,9 @@ public final class RegisterEdgesTest {
 
     private static void alsoZero() {
         Check.sentence("74 c.swsp: b also 0");
-        may(74, B, 0, 2, 0, 5);
-        may(74, B, 31, 2, 31, 5);
+        for (int register = 0; register <= 31; register++) {
+            may(74, B, register, 2, register, 5);
+        }
         mayNot(74, B, -1, 32, Edges.LEAST_INT, Edges.GREATEST_INT);
     }
 

@@ -15,6 +15,8 @@ public final class TextEdgesTest {
         shortDecimals();
         stackPointer();
         registerNames();
+        decimalDigits();
+        eachKind();
         placesWrap();
         zerosInFront();
         illegalWords();
@@ -165,6 +167,25 @@ public final class TextEdgesTest {
             text(0x00000037 | r << 7, "lui " + names[r] + ", 0x0");
             text(0x00000067 | r << 15, "jalr zero, 0(" + names[r] + ")");
             text(0x00000023 | r << 20, "sb " + names[r] + ", 0(zero)");
+        }
+    }
+
+    private static void decimalDigits() {
+        Check.sentence("I is i in decimal; O(x) is i in decimal and register x in ( )");
+        for (int i : new int[] {0, 1, 9, 10, 11, 99, 100, 101, 999, 1000, 1001, 1009, 1010, 1999, 2000, 2047}) {
+            text(0x13 | i << 20, "addi zero, zero, " + i);
+            text(0x03 | i << 20, "lb zero, " + i + "(zero)");
+            if (i != 0) {
+                text(0x13 | -i << 20, "addi zero, zero, -" + i);
+                text(0x03 | -i << 20, "lb zero, -" + i + "(zero)");
+            }
+        }
+    }
+
+    private static void eachKind() {
+        Check.sentence("the kind's name and, behind a blank, its operands, by the kind's PATTERN");
+        for (Samples.Sample s : Samples.ROWS) {
+            Edges.text(s.word, Samples.PLACE, s.text);
         }
     }
 
