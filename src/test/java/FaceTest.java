@@ -10,25 +10,28 @@ import java.util.TreeSet;
 public final class FaceTest {
     public static void main(String[] args) {
         Set<String> due = Set.of(
-            "word(int,int,int,int,int)int", "kind(int)int", "size(int)int", "part(int,int)int", "longer(int)int",
-            "shorter(int)int", "fit(int,long)int", "may(int,long)boolean", "tell(int,int)int", "letter(int)int",
-            "named(long,long)int", "about(int,int)int", "new()", "NONE int");
+            "word(int,int,int,int,int)int(java.lang.IndexOutOfBoundsException,java.lang.IllegalArgumentException)",
+            "kind(int)int()", "size(int)int()", "part(int,int)int(java.util.NoSuchElementException)",
+            "longer(int)int(java.util.NoSuchElementException)", "shorter(int)int()",
+            "fit(int,long)int(java.lang.IllegalArgumentException)", "may(int,long)boolean()", "tell(int,int)int()",
+            "letter(int)int()", "named(long,long)int()", "about(int,int)int()", "new()", "public static final NONE int");
         Set<String> met = new TreeSet<>();
         Set<String> publicNames = new TreeSet<>();
         for (Method m : CodeWords.class.getDeclaredMethods()) {
             if (isSeen(m)) {
-                met.add(m.getName() + parameters(m.getParameterTypes()) + m.getReturnType().getName());
+                met.add(m.getName() + inBrackets(m.getParameterTypes()) + m.getReturnType().getName()
+                    + inBrackets(m.getExceptionTypes()));
                 publicNames.add(m.getName());
             }
         }
         for (Constructor<?> c : CodeWords.class.getDeclaredConstructors()) {
             if (isSeen(c)) {
-                met.add("new" + parameters(c.getParameterTypes()));
+                met.add("new" + inBrackets(c.getParameterTypes()));
             }
         }
         for (Field f : CodeWords.class.getDeclaredFields()) {
             if (isSeen(f)) {
-                met.add(f.getName() + " " + f.getType().getName());
+                met.add(Modifier.toString(f.getModifiers()) + " " + f.getName() + " " + f.getType().getName());
             }
         }
         Check.due("the face", new TreeSet<>(met).toString(), new TreeSet<>(due).toString());
@@ -45,7 +48,7 @@ public final class FaceTest {
         return !member.isSynthetic() && !Modifier.isPrivate(member.getModifiers());
     }
 
-    private static String parameters(Class<?>[] types) {
+    private static String inBrackets(Class<?>[] types) {
         StringBuilder text = new StringBuilder("(");
         for (Class<?> type : types) {
             text.append(text.length() == 1 ? "" : ",").append(type.getName());

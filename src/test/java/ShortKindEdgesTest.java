@@ -178,6 +178,8 @@ public final class ShortKindEdgesTest {
         Edges.stands(0xd281, 0xf00680e3);
         Edges.stands(0xcefd, 0x0e068f63);
         Edges.noShort(0xee068fe3, 0x10068063);
+        // beq a3, ra and beq a3, t6 over no distance
+        Edges.noShort(0x00168063, 0x01f68063);
     }
 
     private static void bnez() {
@@ -186,6 +188,8 @@ public final class ShortKindEdgesTest {
         Edges.stands(0xf281, 0xf00690e3);
         Edges.stands(0xeefd, 0x0e069f63);
         Edges.noShort(0xee069fe3, 0x10069063);
+        // bne a3, ra and bne a3, t6 over no distance
+        Edges.noShort(0x00169063, 0x01f69063);
     }
 
     private static void slli() {
