@@ -5,6 +5,7 @@ public final class HalvesEdgesTest {
     public static void main(String[] args) {
         lowestTwoBits();
         upperHalfOfAShortWord();
+        upperHalfIsNotAnswered();
         upperHalfOfALongWord();
         noWordIsOfTwo();
         Check.end();
@@ -49,6 +50,29 @@ public final class HalvesEdgesTest {
         Edges.fit(word, s.partOr(3, 0), s.has(3) ? s.word : Check.ARGUMENT);
         Edges.text(word, Samples.PLACE, s.text);
         size(word, 2);
+    }
+
+    private static void upperHalfIsNotAnswered() {
+        Check.sentence("its lowest 16 bits alone count; a short one is 0 .. 65535");
+        for (Samples.Sample s : Samples.ROWS) {
+            for (int i : new int[] {-256, -32, -16, -2, 0, 2, 4, 16, 31, 32, 124, 0xfffe0, 0xfffff}) {
+                if (!s.isLong() && Check.fresh().may(s.kind, i)) {
+                    fitOfEachUpperHalf(s, i);
+                }
+            }
+        }
+        Edges.fit(0xffff0040, 1020, 0x1fe0);
+        Edges.fit(0x80003001, 2046, 0x2ffd);
+        Edges.fit(0x12347501, 0xfffff, 0x757d);
+        Edges.fit(0x0001c002, 252, 0xdf82);
+    }
+
+    private static void fitOfEachUpperHalf(Samples.Sample s, int i) {
+        long want = Check.word(s.kind, s.partOr(0, 0), s.partOr(1, 0), s.partOr(2, 0), i);
+        Check.due("word(" + s.kind + ", .., " + i + ") lies in 0 .. 65535", want & ~65535L, 0);
+        for (int upper : UPPER_HALVES) {
+            Edges.fit(s.word | upper, i, want);
+        }
     }
 
     private static void upperHalfOfALongWord() {
